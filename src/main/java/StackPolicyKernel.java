@@ -49,12 +49,10 @@ public final class StackPolicyKernel {
             return false;
         }
         Task owner = tasks[task];
-        if (from < 0 || from >= to || to > owner.cost) {
+        if (from < 0 || from >= to || to > owner.cost || !owner.allowsSection(r, from, to)) {
             return false;
         }
-        if (!owner.takeSection(new Section(r, from, to))) {
-            return false;
-        }
+        owner.addSection(r, from, to);
         ceilings[r] = Math.max(ceilings[r], owner.level());
         return true;
     }
@@ -360,19 +358,12 @@ public final class StackPolicyKernel {
             this.to = to;
         }
 
-        boolean agreesWith(Section other) {
-            if (isApartFrom(other)) {
-                return true;
-            }
-            return resource != other.resource && (liesWithin(other) || other.liesWithin(this));
-        }
-
-        boolean isApartFrom(Section other) {
-            return to <= other.from || other.to <= from;
-        }
-
-        boolean liesWithin(Section other) {
-            return from >= other.from && to <= other.to;
+        // Takes the other section's numbers, so that a refused section makes no object.
+        boolean agreesWith(int otherResource, int otherFrom, int otherTo) {
+            boolean apart = otherTo <= from || to <= otherFrom;
+            boolean within = from <= otherFrom && otherTo <= to;
+            boolean around = otherFrom <= from && to <= otherTo;
+            return apart || (otherResource != resource && (within || around));
         }
 
         boolean isHeldAfter(int ticks) {
@@ -464,18 +455,22 @@ public final class StackPolicyKernel {
             return LONGEST_PERIOD + 1 - span;
         }
 
-        boolean takeSection(Section added) {
+        boolean allowsSection(int r, int from, int to) {
             if (sectionCount == MOST_SECTIONS) {
                 return false;
             }
             for (int i = 0; i < sectionCount; i++) {
-                if (!added.agreesWith(sections[i])) {
+                if (!sections[i].agreesWith(r, from, to)) {
                     return false;
                 }
             }
-            sections[sectionCount] = added;
-            sectionCount++;
             return true;
+        }
+
+        // Only after allowsSection: that leaves a free place.
+        void addSection(int r, int from, int to) {
+            sections[sectionCount] = new Section(r, from, to);
+            sectionCount++;
         }
 
         int longestHold(int[] ceilings, int level) {

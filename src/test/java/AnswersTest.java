@@ -14,6 +14,7 @@ public final class AnswersTest {
         ceilingOfTheSystem();
         jobFigures();
         blockedJobs();
+        blockedInTheLastTickOfASpell();
         blockedTwiceByOneSpell();
         twoSpellsOfOneJob();
         missesOnce();
@@ -23,16 +24,8 @@ public final class AnswersTest {
         due.end();
     }
 
-    private static StackPolicyKernel withTasks(int... periodsSpansCosts) {
-        StackPolicyKernel x = new StackPolicyKernel();
-        for (int i = 0; i < periodsSpansCosts.length; i += 3) {
-            x.task(periodsSpansCosts[i], periodsSpansCosts[i + 1], periodsSpansCosts[i + 2]);
-        }
-        return x;
-    }
-
     private static void timeGrowsByTicks() {
-        StackPolicyKernel x = withTasks(10, 10, 2);
+        StackPolicyKernel x = Kernels.withTasks(10, 10, 2);
         due.is("p11 before start", x.time(), 0);
         x.start();
         due.is("p11 at the start", x.time(), 0);
@@ -45,7 +38,7 @@ public final class AnswersTest {
     }
 
     private static void ranLooksBack() {
-        StackPolicyKernel x = withTasks(10, 10, 1, 20, 20, 1);
+        StackPolicyKernel x = Kernels.withTasks(10, 10, 1, 20, 20, 1);
         x.server(1, 30);
         due.is("p12 before start", x.ran(0), NONE);
         x.start();
@@ -66,7 +59,7 @@ public final class AnswersTest {
     }
 
     private static void ranKeepsSixtyFour() {
-        StackPolicyKernel x = withTasks(10, 10, 1);
+        StackPolicyKernel x = Kernels.withTasks(10, 10, 1);
         x.start();
         x.release(0, 1);
         x.step(63);
@@ -85,7 +78,7 @@ public final class AnswersTest {
     }
 
     private static void queuedInOrder() {
-        StackPolicyKernel x = withTasks(20, 20, 2, 20, 12, 2, 20, 20, 2);
+        StackPolicyKernel x = Kernels.withTasks(20, 20, 2, 20, 12, 2, 20, 20, 2);
         x.server(2, 20);
         due.is("p13 before start", x.queued(0), 0);
         x.start();
@@ -110,7 +103,7 @@ public final class AnswersTest {
     }
 
     private static void holderWhileHeld() {
-        StackPolicyKernel x = withTasks(50, 50, 1, 20, 20, 9);
+        StackPolicyKernel x = Kernels.withTasks(50, 50, 1, 20, 20, 9);
         x.section(1, 0, 2, 5);
         x.section(1, 1, 3, 5);
         x.section(1, 3, 6, 7);
@@ -133,7 +126,7 @@ public final class AnswersTest {
     }
 
     private static void holderOfAShortJob() {
-        StackPolicyKernel x = withTasks(20, 20, 9);
+        StackPolicyKernel x = Kernels.withTasks(20, 20, 9);
         x.section(0, 2, 0, 9);
         x.start();
         x.release(0, 3);
@@ -148,7 +141,7 @@ public final class AnswersTest {
     }
 
     private static void ceilingOfTheSystem() {
-        StackPolicyKernel x = withTasks(60, 60, 9, 30, 30, 2, 10, 10, 2);
+        StackPolicyKernel x = Kernels.withTasks(60, 60, 9, 30, 30, 2, 10, 10, 2);
         x.section(0, 0, 0, 8);
         x.section(0, 1, 1, 6);
         x.section(0, 2, 2, 4);
@@ -165,7 +158,7 @@ public final class AnswersTest {
     }
 
     private static void jobFigures() {
-        StackPolicyKernel x = withTasks(20, 15, 5, 20, 20, 3);
+        StackPolicyKernel x = Kernels.withTasks(20, 15, 5, 20, 20, 3);
         due.is("p16 before start", x.job(0, 0), NONE);
         x.start();
         due.is("p16 none released", x.job(0, 0), NONE);
@@ -196,7 +189,7 @@ public final class AnswersTest {
 
     private static void blockedJobs() {
         // Task 0 holds a resource of task 2; task 1 is blocked too, the server does not block.
-        StackPolicyKernel x = withTasks(60, 60, 9, 30, 30, 3, 20, 20, 3);
+        StackPolicyKernel x = Kernels.withTasks(60, 60, 9, 30, 30, 3, 20, 20, 3);
         x.section(0, 0, 1, 6);
         x.section(2, 0, 0, 2);
         x.server(2, 6);
@@ -225,9 +218,35 @@ public final class AnswersTest {
         due.is("p16 they stay", x.job(1, 2) * 10 + x.job(1, 3), 13);
     }
 
+    private static void blockedInTheLastTickOfASpell() {
+        StackPolicyKernel x = Kernels.withTasks(20, 20, 2, 60, 60, 9);
+        x.section(1, 0, 0, 5);
+        x.section(0, 0, 0, 2);
+        x.start();
+        x.release(1, 9);
+        x.step(4);
+        x.release(0, 2);
+        x.step(1);
+        due.is("p16 the spell's last tick blocks", x.job(0, 2) * 10 + x.job(0, 3), 11);
+        due.is("p14 nobody holds it after that", x.holder(0), NONE);
+        x.step(2);
+        due.is("p16 then it runs", x.job(0, 0), 0);
+        due.is("p16 and is blocked no more", x.job(0, 2) * 10 + x.job(0, 3), 11);
+        // A spell that ends because its job ends.
+        x.step(20);
+        x.release(0, 1);
+        x.step(40);
+        due.is("p16 next job", x.release(1, 3), 4);
+        x.step(2);
+        x.release(0, 2);
+        x.step(1);
+        due.is("p16 the holder ended", x.job(1, 0), 0);
+        due.is("p16 its last tick blocks", x.job(0, 2) * 10 + x.job(0, 3), 11);
+    }
+
     private static void blockedTwiceByOneSpell() {
         // The outer section makes one spell of all; both jobs of task 1 wait for an inner one.
-        StackPolicyKernel x = withTasks(100, 100, 12, 5, 4, 1);
+        StackPolicyKernel x = Kernels.withTasks(100, 100, 12, 5, 4, 1);
         x.section(0, 0, 0, 11);
         x.section(0, 1, 1, 4);
         x.section(0, 1, 6, 10);
@@ -249,7 +268,7 @@ public final class AnswersTest {
 
     private static void twoSpellsOfOneJob() {
         // Touching sections make two spells; the second begins when task 1 has gone before.
-        StackPolicyKernel x = withTasks(100, 100, 12, 9, 8, 2);
+        StackPolicyKernel x = Kernels.withTasks(100, 100, 12, 9, 8, 2);
         x.section(0, 0, 0, 4);
         x.section(0, 0, 4, 8);
         x.section(1, 0, 0, 2);
@@ -268,7 +287,7 @@ public final class AnswersTest {
     }
 
     private static void missesOnce() {
-        StackPolicyKernel x = withTasks(4, 4, 4, 5, 5, 3);
+        StackPolicyKernel x = Kernels.withTasks(4, 4, 4, 5, 5, 3);
         due.is("p17 none yet", x.misses(0), 0);
         due.is("p17 no task 2", x.misses(2), NONE);
         due.is("p17 no task -1", x.misses(-1), NONE);
@@ -293,10 +312,17 @@ public final class AnswersTest {
         x.step(5);
         due.is("p17 the next job", x.misses(1), 2);
         due.is("p17 of the other none", x.misses(0), 0);
+        StackPolicyKernel y = Kernels.withTasks(5, 5, 3, 4, 4, 4);
+        y.start();
+        y.release(0, 3);
+        y.release(1, 4);
+        y.step(30);
+        due.is("p17 task 0", y.misses(0), 1);
+        due.is("p17 task 1", y.misses(1), 0);
     }
 
     private static void worstResponse() {
-        StackPolicyKernel x = withTasks(10, 10, 3, 20, 20, 4);
+        StackPolicyKernel x = Kernels.withTasks(10, 10, 3, 20, 20, 4);
         due.is("p18 none yet", x.worst(0), 0);
         due.is("p18 no task 2", x.worst(2), NONE);
         due.is("p18 no task -1", x.worst(-1), NONE);
@@ -322,7 +348,7 @@ public final class AnswersTest {
     }
 
     private static void serverFigures() {
-        StackPolicyKernel x = withTasks(100, 3, 3);
+        StackPolicyKernel x = Kernels.withTasks(100, 3, 3);
         due.is("p19 no server", x.serverFigure(0), NONE);
         x.server(3, 7);
         int[] before = {0, 3, 0, 0, 0, 0};
@@ -346,7 +372,7 @@ public final class AnswersTest {
     }
 
     private static void counts() {
-        StackPolicyKernel x = withTasks(20, 20, 4, 10, 10, 2);
+        StackPolicyKernel x = Kernels.withTasks(20, 20, 4, 10, 10, 2);
         x.start();
         x.release(0, 4);
         due.is("p20 not begun", x.count(3), 0);

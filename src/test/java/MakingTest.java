@@ -274,6 +274,15 @@ public final class MakingTest {
         greatest.section(1, 0, 0, 4);
         greatest.section(2, 1, 0, 1);
         due.is("p6 the greatest of two, not the last", greatest.verdict(), 0);
+        // Task 1 has 2/4 and w/4; the holder is made first and its section begins late.
+        StackPolicyKernel first = withTasks(10, 4, 4, 2);
+        first.section(1, 0, 0, 1);
+        due.yes("p6 a late section", first.section(0, 0, 1, 4));
+        due.is("p6 w 2 of a late section", first.verdict(), NONE);
+        StackPolicyKernel longer = withTasks(20, 5, 4, 2);
+        longer.section(1, 0, 0, 1);
+        longer.section(0, 0, 1, 5);
+        due.is("p6 w 3 of the task made first", longer.verdict(), 1);
         // Task 1 has 1/2 + 4/8 and w/8, and no section itself.
         StackPolicyKernel above = withTasks(2, 1, 8, 4, 40, 2);
         due.is("p6 without sections", above.verdict(), 2);

@@ -28,14 +28,6 @@ public final class RunningTest {
         due.end();
     }
 
-    private static StackPolicyKernel withTasks(int... periodsSpansCosts) {
-        StackPolicyKernel x = new StackPolicyKernel();
-        for (int i = 0; i < periodsSpansCosts.length; i += 3) {
-            x.task(periodsSpansCosts[i], periodsSpansCosts[i + 1], periodsSpansCosts[i + 2]);
-        }
-        return x;
-    }
-
     private static StackPolicyKernel startedServer(int size, int period) {
         StackPolicyKernel x = new StackPolicyKernel();
         x.server(size, period);
@@ -53,7 +45,7 @@ public final class RunningTest {
     }
 
     private static void releaseRefusals() {
-        StackPolicyKernel x = withTasks(10, 8, 4, 20, 20, 5);
+        StackPolicyKernel x = Kernels.withTasks(10, 8, 4, 20, 20, 5);
         due.is("p8 off", x.release(0, 1), OFF);
         due.is("p8 off before bad", x.release(7, 0), OFF);
         x.start();
@@ -82,7 +74,7 @@ public final class RunningTest {
     }
 
     private static void releaseByPeriod() {
-        StackPolicyKernel x = withTasks(5, 5, 2);
+        StackPolicyKernel x = Kernels.withTasks(5, 5, 2);
         x.start();
         x.step(3);
         due.is("p8 the first at any time", x.release(0, 2), 1);
@@ -96,7 +88,7 @@ public final class RunningTest {
     }
 
     private static void releaseAfterALateEnd() {
-        StackPolicyKernel x = withTasks(4, 4, 2, 3, 3, 3);
+        StackPolicyKernel x = Kernels.withTasks(4, 4, 2, 3, 3, 3);
         x.start();
         x.release(0, 2);
         x.release(1, 3);
@@ -174,7 +166,7 @@ public final class RunningTest {
         y.submit(1);
         due.is("p9 another waits: deadline", y.serverFigure(0), 10);
         due.is("p9 another waits: budget", y.serverFigure(1), 1);
-        StackPolicyKernel z = withTasks(100, 10, 10);
+        StackPolicyKernel z = Kernels.withTasks(100, 10, 10);
         z.server(1, 20);
         z.start();
         z.release(0, 10);
@@ -213,7 +205,7 @@ public final class RunningTest {
     }
 
     private static void stepEdges() {
-        StackPolicyKernel x = withTasks(100, 100, 100);
+        StackPolicyKernel x = Kernels.withTasks(100, 100, 100);
         due.is("p10 not started", x.step(1), NONE);
         due.is("p10 no tick before start", x.time(), 0);
         x.start();
@@ -229,7 +221,7 @@ public final class RunningTest {
     }
 
     private static void stepCountsFinished() {
-        StackPolicyKernel x = withTasks(10, 10, 2, 20, 20, 3);
+        StackPolicyKernel x = Kernels.withTasks(10, 10, 2, 20, 20, 3);
         x.server(2, 30);
         x.start();
         x.release(0, 2);
@@ -244,7 +236,7 @@ public final class RunningTest {
     }
 
     private static void earliestDeadlineFirst() {
-        StackPolicyKernel x = withTasks(30, 30, 4, 10, 10, 2, 20, 20, 3);
+        StackPolicyKernel x = Kernels.withTasks(30, 30, 4, 10, 10, 2, 20, 20, 3);
         x.server(1, 15);
         x.start();
         x.release(0, 4);
@@ -261,7 +253,7 @@ public final class RunningTest {
     }
 
     private static void equalDeadlines() {
-        StackPolicyKernel x = withTasks(10, 10, 1, 10, 8, 1, 10, 10, 1);
+        StackPolicyKernel x = Kernels.withTasks(10, 10, 1, 10, 8, 1, 10, 10, 1);
         x.server(1, 8);
         x.start();
         x.submit(1);
@@ -274,7 +266,7 @@ public final class RunningTest {
 
     private static void levelAgainstCeiling() {
         // Task 0 holds resource 0, whose ceiling is the level of task 1.
-        StackPolicyKernel x = withTasks(50, 50, 9, 20, 20, 2, 19, 10, 2, 30, 21, 2);
+        StackPolicyKernel x = Kernels.withTasks(50, 50, 9, 20, 20, 2, 19, 10, 2, 30, 21, 2);
         x.section(0, 0, 0, 5);
         x.section(1, 0, 0, 1);
         x.start();
@@ -296,14 +288,14 @@ public final class RunningTest {
     }
 
     private static void begunJobGoesOn() {
-        StackPolicyKernel x = withTasks(20, 20, 6);
+        StackPolicyKernel x = Kernels.withTasks(20, 20, 6);
         x.section(0, 0, 0, 6);
         x.start();
         x.release(0, 6);
         due.is("p10 its own ceiling does not stop it", x.step(6), 1);
         due.is("p10 it ran each tick", lastCodes(x, 6), 222222);
         // Task 1 has begun and holds nothing, while task 0 holds what bars its level.
-        StackPolicyKernel y = withTasks(100, 90, 9, 40, 40, 4, 10, 10, 2);
+        StackPolicyKernel y = Kernels.withTasks(100, 90, 9, 40, 40, 4, 10, 10, 2);
         y.section(0, 0, 0, 8);
         y.section(1, 1, 2, 3);
         y.start();
@@ -318,7 +310,7 @@ public final class RunningTest {
 
     private static void holderOfTheSystemCeilingRuns() {
         // Task 0 holds a low ceiling, task 1 on top of it a high one.
-        StackPolicyKernel x = withTasks(100, 90, 9, 60, 50, 9, 30, 20, 2);
+        StackPolicyKernel x = Kernels.withTasks(100, 90, 9, 60, 50, 9, 30, 20, 2);
         x.section(0, 0, 0, 8);
         x.section(1, 1, 0, 6);
         x.section(1, 2, 1, 4);
@@ -335,7 +327,7 @@ public final class RunningTest {
         x.step(2);
         due.is("p10 then the first", lastCodes(x, 2), 44);
         // A lower task number holds the high ceiling, a higher one the low ceiling.
-        StackPolicyKernel y = withTasks(60, 50, 9, 100, 90, 9, 30, 20, 2);
+        StackPolicyKernel y = Kernels.withTasks(60, 50, 9, 100, 90, 9, 30, 20, 2);
         y.section(1, 0, 0, 8);
         y.section(0, 1, 0, 6);
         y.section(2, 1, 0, 1);
@@ -350,7 +342,7 @@ public final class RunningTest {
     }
 
     private static void serverNeedsNoLevel() {
-        StackPolicyKernel x = withTasks(50, 50, 9, 1, 1, 1);
+        StackPolicyKernel x = Kernels.withTasks(50, 50, 9, 1, 1, 1);
         x.section(0, 0, 0, 9);
         x.section(1, 0, 0, 1);
         x.server(3, 100);
@@ -360,7 +352,7 @@ public final class RunningTest {
         x.step(2);
         due.is("p10 the ceiling", x.systemCeiling(), 100);
         due.is("p10 the server is later", lastCodes(x, 2), 22);
-        StackPolicyKernel y = withTasks(50, 50, 9, 1, 1, 1);
+        StackPolicyKernel y = Kernels.withTasks(50, 50, 9, 1, 1, 1);
         y.section(0, 0, 0, 9);
         y.section(1, 0, 0, 1);
         y.server(3, 10);
