@@ -31,6 +31,10 @@ public final class ModelTest {
         return low + (int) ((seed >>> 33) % (high - low + 1));
     }
 
+    private int far() {
+        return Edges.FAR[pick(0, Edges.FAR.length - 1)];
+    }
+
     private void play() {
         int making = run % 3 == 0 ? makeAnything() : makeSharingTasks();
         if (pick(0, 9) > 0) {
@@ -118,6 +122,7 @@ public final class ModelTest {
             int task = pick(0, 19) == 0 ? pick(-1, 6) : pick(0, Math.max(0, model.makers.size() - 1));
             int cost = task >= 0 && task < model.makers.size() ? model.makers.get(task).cost : 3;
             int amount = pick(0, 9) == 0 ? pick(-1, cost + 1) : pick((cost + 1) / 2, cost);
+            amount = pick(0, 99) == 0 ? far() : amount;
             same("release " + task + " " + amount,
                 x.release(task, amount), model.release(task, amount));
         } else if (kind < 12) {
@@ -127,7 +132,8 @@ public final class ModelTest {
             int n = pick(0, 29) == 0 ? pick(-1, 30) : pick(1, 3);
             same("step " + n, x.step(n), model.step(n));
         } else if (kind == 18) {
-            same("step 201", x.step(201), model.step(201));
+            int n = pick(0, 1) == 0 ? far() : pick(201, 203);
+            same("step " + n, x.step(n), model.step(n));
         } else if (pick(0, 5) == 0) {
             same("start", x.start() ? 1 : 0, model.start() ? 1 : 0);
         } else {
@@ -137,8 +143,8 @@ public final class ModelTest {
 
     private void ask() {
         int kind = pick(0, 11);
-        int k = pick(-1, 6);
-        int task = pick(-1, 6);
+        int k = pick(0, 19) == 0 ? far() : pick(-1, 6);
+        int task = pick(0, 19) == 0 ? far() : pick(-1, 6);
         switch (kind) {
             case 0: same("verdict", x.verdict(), model.verdict()); break;
             case 1: same("ceiling " + k, x.ceiling(k), model.ceiling(k)); break;
