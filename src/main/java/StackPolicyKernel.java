@@ -205,8 +205,8 @@ public final class StackPolicyKernel {
         return begun;
     }
 
-    // The sum is kept as one fraction over the product of all denominators: these are at most
-    // eight numbers of at most 100 and each term is at most 1, so both parts stay below 10^17.
+    // The sum is kept as one fraction over the product of all denominators. There are at most
+    // eight terms, all of whose numbers are at most 100: both parts stay below 8 * 100^8 < 10^17.
     private boolean passes(Task candidate) {
         long above = longestHoldAgainst(candidate);
         long below = candidate.span;

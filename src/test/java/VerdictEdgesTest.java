@@ -15,6 +15,7 @@ public final class VerdictEdgesTest {
         verdictHoldNeedsTheCeiling();
         verdictHoldIsOneLess();
         verdictGreatestHold();
+        verdictHoldLongerThanTheSpan();
         verdictHolderOfAnyNumber();
         verdictLowestTask();
         verdictSixth();
@@ -169,6 +170,21 @@ public final class VerdictEdgesTest {
             sum.section(1, r, 6 * r, 6 * r + 6);
         }
         due.is("p6 the greatest, not the sum", sum.verdict(), NONE);
+    }
+
+    private static void verdictHoldLongerThanTheSpan() {
+        for (int to = 1; to <= 100; to++) {
+            // Task 0 has 1/2 + (to - 1)/2, task 1 1/2 + 50/100 or more.
+            StackPolicyKernel x = ofSpans(2, 1, 100, Math.max(50, to));
+            x.section(0, 0, 0, 1);
+            x.section(1, 0, 0, to);
+            due.is("p6 a hold of " + (to - 1) + " against a span of 2", x.verdict(), to <= 2 ? NONE : 0);
+        }
+        StackPolicyKernel most = ofSpans(99, 99, 99, 99, 99, 99, 99, 99, 99, 99, 100, 100);
+        most.server(100, 100);
+        most.section(0, 0, 0, 99);
+        most.section(5, 0, 0, 100);
+        due.is("p6 the greatest sum with a hold", most.verdict(), 0);
     }
 
     private static void verdictHolderOfAnyNumber() {
